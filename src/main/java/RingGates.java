@@ -1504,19 +1504,17 @@ public final class RingGates {
             return at >= length || byteAt(at) == ';';
         }
 
-        private boolean isLetter(int place) {
-            int b = byteAt(place);
+        private static boolean isLetter(int b) {
             return b >= 'a' && b <= 'z';
         }
 
-        private boolean isDigit(int place) {
-            int b = byteAt(place);
+        private static boolean isDigit(int b) {
             return b >= '0' && b <= '9';
         }
 
         private int readWord() {
             int end = at;
-            while (end < length && isLetter(end)) {
+            while (end < length && isLetter(byteAt(end))) {
                 end++;
             }
             for (int k = 0; k < TEXT_WORDS; k++) {
@@ -1580,7 +1578,7 @@ public final class RingGates {
         private int readNumber(int digits, int most) {
             int first = at;
             int v = 0;
-            while (at < length && isDigit(at)) {
+            while (at < length && isDigit(byteAt(at))) {
                 // Past so many digits it is no such number, whatever its value.
                 v = at - first < digits ? 10 * v + byteAt(at) - '0' : v;
                 at++;
@@ -1593,7 +1591,7 @@ public final class RingGates {
 
         private int readName() {
             int first = at;
-            while (at < length && isLetter(at)) {
+            while (at < length && isLetter(byteAt(at))) {
                 at++;
             }
             if (at - first != 1) {
