@@ -37,13 +37,7 @@ public final class RingGates {
 
     public int directory(int above) {
         World world = now.world;
-        if (!world.hasDirectory(above)) {
-            return BAD;
-        }
-        if (world.directories >= DIRECTORIES) {
-            return FULL;
-        }
-        return world.makeDirectory(above);
+        return world.hasDirectory(above) ? world.makeDirectory(above) : BAD;
     }
 
     public int segment(int directory, int name, int length) {
@@ -572,19 +566,19 @@ public final class RingGates {
         }
 
         int kindAt(int word) {
-            return has(word) && word < kinds.length ? kinds[word] : MISSING;
+            return has(word) ? kinds[word] : MISSING;
         }
 
         int valueAt(int word) {
-            return has(word) && word < values.length ? values[word] : 0;
+            return has(word) ? values[word] : 0;
         }
 
         int knownAt(int word) {
-            return has(word) && word < knowns.length ? knowns[word] : 0;
+            return has(word) ? knowns[word] : 0;
         }
 
         void become(int word, int kind, int value, int known) {
-            if (has(word) && word < kinds.length && word < values.length && word < knowns.length) {
+            if (has(word)) {
                 kinds[word] = kind;
                 values[word] = value;
                 knowns[word] = known;
@@ -674,22 +668,22 @@ public final class RingGates {
         }
 
         int aboveOf(int d) {
-            return hasDirectory(d) && d < aboves.length ? aboves[d] : ROOT;
+            return hasDirectory(d) ? aboves[d] : ROOT;
         }
 
         int quotaOf(int d) {
-            return hasDirectory(d) && d < quotas.length ? quotas[d] : 0;
+            return hasDirectory(d) ? quotas[d] : 0;
         }
 
         void addQuota(int d, int n) {
-            if (hasDirectory(d) && d < quotas.length) {
+            if (hasDirectory(d)) {
                 quotas[d] += n;
             }
         }
 
         int makeDirectory(int above) {
             int d = directories;
-            if (d >= aboves.length || d >= quotas.length) {
+            if (d < 0 || d >= DIRECTORIES) {
                 return FULL;
             }
             aboves[d] = above;
@@ -717,7 +711,8 @@ public final class RingGates {
 
         int leastFree() {
             for (int s = 0; s < segments.length; s++) {
-                if (segments[s] != null && !segments[s].there) {
+                Segment g = segments[s];
+                if (g != null && !g.there) {
                     return s;
                 }
             }
@@ -725,22 +720,20 @@ public final class RingGates {
         }
 
         void makeSegment(int s, int d, int name, int length) {
-            if (s < 0 || s >= segments.length || segments[s] == null) {
+            Segment fresh = s >= 0 && s < segments.length ? segments[s] : null;
+            if (fresh == null) {
                 return;
             }
-            Segment fresh = segments[s];
             made++;
             fresh.there = true;
             fresh.directory = d;
             fresh.name = name;
             fresh.serial = made;
-            fresh.length = WORDS;
             fresh.r1 = FIRST_RING;
             fresh.r2 = FIRST_RING;
             fresh.r3 = FIRST_RING;
             fresh.may = MAY_ALL;
-            fresh.gates = 0;
-            // From the greatest length to none, so that no word of an earlier segment stays.
+            // Made empty first, so that no word or gate of an earlier segment stays.
             fresh.changeLength(0);
             fresh.changeLength(length);
         }
@@ -923,8 +916,10 @@ public final class RingGates {
             copyNumbers(other.ruleRow, ruleRow);
             made = other.made;
             for (int s = 0; s < segments.length && s < other.segments.length; s++) {
-                if (segments[s] != null && other.segments[s] != null) {
-                    segments[s].copyFrom(other.segments[s]);
+                Segment from = other.segments[s];
+                Segment to = segments[s];
+                if (from != null && to != null) {
+                    to.copyFrom(from);
                 }
             }
         }
@@ -969,8 +964,10 @@ public final class RingGates {
             outward = other.outward;
             size = other.size;
             for (int i = 0; i < arguments.length && i < other.arguments.length; i++) {
-                if (arguments[i] != null && other.arguments[i] != null) {
-                    arguments[i].copyFrom(other.arguments[i]);
+                Argument from = other.arguments[i];
+                Argument to = arguments[i];
+                if (from != null && to != null) {
+                    to.copyFrom(from);
                 }
             }
         }
@@ -1211,7 +1208,6 @@ public final class RingGates {
             argument.segment = operandSegment;
             argument.word = operandWord;
             argument.ring = operandRing;
-            argument.copy = 0;
             argument.isSet = false;
             if (!copied) {
                 return DONE;
@@ -1429,11 +1425,11 @@ public final class RingGates {
         }
 
         int kindOf(int i) {
-            return i >= 0 && i < words && i < kinds.length ? kinds[i] : MISSING;
+            return i >= 0 && i < words && i <= TAPE ? kinds[i] : MISSING;
         }
 
         int valueOf(int i) {
-            return i >= 0 && i < words && i < values.length ? values[i] : 0;
+            return i >= 0 && i < words && i <= TAPE ? values[i] : 0;
         }
 
         // fault is -1 then, or the place of the FAULT.
@@ -1489,7 +1485,7 @@ public final class RingGates {
         }
 
         private void tell(int kind, int value) {
-            if (words >= 0 && words < kinds.length && words < values.length) {
+            if (words >= 0 && words <= TAPE) {
                 kinds[words] = kind;
                 values[words] = value;
                 words++;

@@ -179,6 +179,7 @@ public final class DirectoriesTest {
         C.due("rename(0, 3)", x.rename(0, 3), 3);
         C.due("rename(0, 5)", x.rename(0, 5), 3);
         C.due("of(0, 1)", x.of(0, 1), 5);
+        C.due("rename(1, 5): the first segment has it", x.rename(1, 5), -5);
         C.due("rename(1, 3)", x.rename(1, 3), 4);
         C.due("rename(2, 25)", x.rename(2, 25), 5);
     }
@@ -186,7 +187,7 @@ public final class DirectoriesTest {
     private static void brackets() {
         RingGates x = new RingGates();
         x.segment(0, 3, 1);
-        int[] bad = {-1, -444, 8, 80, 800, 778, 787, 877, 210, 243, 543, 435, 1000, 1777, 4444, MIN, MAX};
+        int[] bad = {-1, -444, 8, 100, 201, 706, 80, 800, 778, 787, 877, 210, 243, 543, 435, 1000, 1777, 4444, MIN, MAX};
         for (int rrr : bad) {
             C.due("brackets(0, " + rrr + ")", x.brackets(0, rrr), -1);
         }

@@ -15,6 +15,8 @@ public final class MachineTest {
         operandFaults();
         snapping();
         snapOutlivesFault();
+        everyActSnaps();
+        stacksOfRings();
         callInward();
         callSameRing();
         callFaults();
@@ -331,6 +333,48 @@ public final class MachineTest {
         C.word(x, 0, 11, 4, 2500, 0);
         C.machine(x, 0, 1, 4, 0);
         C.due("machine(14)", x.machine(14), 0);
+    }
+
+    private static void everyActSnaps() {
+        int[] whats = {1, 2, 3, 4, 5};
+        for (int what : whats) {
+            RingGates x = two(444, 444);
+            C.load(x, 0, 1, "link a 3;;num 5", 3);
+            x.act(0, 0, what, 1, 0);
+            x.start(0, 0, 4);
+            C.run(x, 1, 1, 0);
+            C.word(x, 0, 1, 5, 403, 3);
+        }
+    }
+
+    private static void stacksOfRings() {
+        for (int ring = 0; ring < 8; ring++) {
+            RingGates x = two(444, 111 * ring);
+            x.brackets(0, 111 * ring);
+            C.load(x, 0, 0, "call 2 1;halt;ptr 0 1 3;num 6;arg 0;back;call 7 2;ptr 0 0 4", 8);
+            C.load(x, 0, 8, "num 8;num 9", 2);
+            C.load(x, 1, 3, "arg 0;go 6;ptr 0 0 6", 3);
+            x.pointer(1, 6, 6, false);
+            x.start(0, 0, ring);
+            C.run(x, 4, 4, 0);
+            C.due("machine(10 + ring)", x.machine(10 + ring), 2);
+            C.due("dry(1, 4)", x.dry(1, 4), 2);
+            C.due("dry(2, 4)", x.dry(2, 4), 1);
+            C.due("dry(1, 2)", x.dry(1, 2), 8);
+            int[][] due = {{0, 1, ring, 1, 0}, {0, 7, ring, 2, 0}};
+            for (int k = 0; k < 2; k++) {
+                for (int what = 0; what < 5; what++) {
+                    C.due("frame(ring, k, what)", x.frame(ring, k, what), due[k][what]);
+                }
+            }
+            C.due("image()", x.image(), 2);
+            x.start(0, 0, ring);
+            C.due("machine(10 + ring)", x.machine(10 + ring), 0);
+            C.due("back()", x.back(), 2);
+            C.run(x, 2, 2, 0);
+            C.machine(x, 0, 7, ring, 8);
+            C.due("machine(10 + ring)", x.machine(10 + ring), 1);
+        }
     }
 
     private static void callInward() {

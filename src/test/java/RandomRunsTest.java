@@ -155,12 +155,16 @@ public final class RandomRunsTest {
     }
 
     private void machineCall() {
-        switch (upTo(14)) {
+        switch (upTo(15)) {
+            case 14 -> unsnap(upTo(5));
             case 0 -> startWhereItMayGo();
             case 1, 2, 3 -> run(1 + upTo(upTo(3) == 0 ? 200 : 4));
             case 4 -> dry(1 + upTo(200), upTo(5));
             case 5 -> brackets(upTo(5), someBrackets());
-            case 6 -> operand(upTo(5), upTo(12), upTo(8), upTo(3));
+            case 6 -> {
+                operand(upTo(5), upTo(12), upTo(8), upTo(3));
+                same("stale()", x.stale(), m.stale());
+            }
             case 7 -> set(upTo(5), upTo(2), upTo(3) == 0 ? upTo(8) : 7);
             case 8 -> frame(upTo(8), upTo(3), upTo(5));
             case 9 -> leaveFault();

@@ -326,13 +326,15 @@ public final class ThoughtTest {
         RingGates x = two(127, 567);
         x.directory(0);
         x.quota(1, 9);
+        x.rule(0);
         x.rule(1);
+        x.segment(1, 4, 3);
         C.load(x, 0, 0, "call 2 2;halt;ptr 0 1 0;num 10;link b 5", 5);
         C.load(x, 1, 0, "set 1;back;;;;num 20", 6);
         x.set(1, 1, 3);
         x.start(0, 0, 1);
         C.run(x, 2, 2, 0);
-        C.due("image()", x.image(), 2);
+        C.due("image()", x.image(), 3);
         C.run(x, 200, 2, 1);
         C.word(x, 1, 5, 1, 0, 0);
         x.brackets(1, 117);
@@ -346,23 +348,30 @@ public final class ThoughtTest {
         x.segment(2, 1, 1);
         x.quota(1, -9);
         x.rule(-1);
+        x.rule(0);
+        x.rule(0);
+        x.drop(2);
+        x.segment(0, 7, 20);
         x.start(7, 7, 7);
         x.feed(97);
-        C.due("back()", x.back(), 2);
+        C.due("back()", x.back(), 3);
         C.due("why() stays", x.why(), 1);
-        int[] counts = {2, 2, 1, 1, 2, 64, 6, 1, 2};
+        int[] counts = {2, 3, 2, 1, 2, 64, 7, 1, 3};
         for (int what = 0; what < counts.length; what++) {
             C.due("count(" + what + ")", x.count(what), counts[what]);
         }
         int[] first = {0, 0, 24, 1, 2, 7, 7, 0, 1, 3};
         int[] second = {0, 1, 24, 5, 6, 7, 7, 3, 2, 3};
+        int[] third = {1, 4, 3, 4, 4, 4, 7, 0, 3, 1};
         for (int what = 0; what < first.length; what++) {
             C.due("of(0, " + what + ")", x.of(0, what), first[what]);
             C.due("of(1, " + what + ")", x.of(1, what), second[what]);
+            C.due("of(2, " + what + ")", x.of(2, what), third[what]);
         }
         C.word(x, 0, 4, 5, 1105, 105);
         C.word(x, 1, 5, 1, 20, 0);
         C.due("cell(1, 1)", x.cell(1, 1), 9);
+        C.due("lookup(0, 4): the rules are back", x.lookup(0, 4), 2);
         C.machine(x, 1, 1, 5, 0);
         int[] frame = {0, 1, 1, 2, 1};
         for (int what = 0; what < frame.length; what++) {

@@ -189,11 +189,13 @@ public final class WordsTest {
         String[] texts = {"num 12345", "num -12345", "num --5", "num +5", "num a", "num 5 ", "num 5a", "num 5 5",
             "ptr 8 0 0", "ptr 0 16 0", "ptr 0 0 24", "ptr 000 0 0", "ptr -1 0 0", "ptr 0,0 0", "ind 7 15 240",
             "take 24", "put 99", "add 001", "go 4;", "go 4;go 24", "test -1", "call 1 4", "call 24 4", "call 1 3 1",
-            "arg 3", "set 03", "arg 2;set 00", "num 00001", "num 123456789012345678901234567890"};
+            "arg 3", "set 03", "arg 2;set 00", "num 00001", "num 123456789012345678901234567890",
+            "num -00001", "ptr 0 001 0", "call 1 003", "arg 002", "link a 001", "halt;num -"};
         int[] faults = {4, 5, 5, 4, 4, 5, 5, 5,
             4, 6, 8, 4, 4, 5, 9,
             5, 4, 4, -1, 8, 5, 7, 5, 8,
-            4, 4, -1, 4, 4};
+            4, 4, -1, 4, 4,
+            5, 6, 7, 4, 7, 10};
         int[] words = new int[faults.length];
         words[18] = 2;
         words[26] = 2;
@@ -253,5 +255,16 @@ public final class WordsTest {
         C.word(x, 0, 7, 4, 103, 0);
         C.due("count(7)", x.count(7), 0);
         C.due("unsnap(0)", x.unsnap(0), 0);
+        x = withSegment(2);
+        C.load(x, 0, 0, "link a 0;take 0", 2);
+        x.start(0, 1, 4);
+        C.run(x, 1, 0, -24);
+        C.word(x, 0, 0, 5, 400, 0);
+        C.due("count(7): the first word", x.count(7), 1);
+        C.due("stale()", x.stale(), 0);
+        x.rename(0, 1);
+        C.due("stale()", x.stale(), 1);
+        C.due("unsnap(0): the first word", x.unsnap(0), 1);
+        C.word(x, 0, 0, 4, 0, 0);
     }
 }
