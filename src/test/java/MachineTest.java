@@ -17,6 +17,7 @@ public final class MachineTest {
         snapOutlivesFault();
         everyActSnaps();
         stacksOfRings();
+        inwardAndOutwardAtOnce();
         callInward();
         callSameRing();
         callFaults();
@@ -375,6 +376,40 @@ public final class MachineTest {
             C.machine(x, 0, 7, ring, 8);
             C.due("machine(10 + ring)", x.machine(10 + ring), 1);
         }
+    }
+
+    private static void inwardAndOutwardAtOnce() {
+        // Ring 5 calls into 1, which calls out to 6, which calls into 3; then all the ways back.
+        RingGates x = two(457, 117);
+        x.segment(0, 2, 8);
+        x.segment(0, 3, 8);
+        x.brackets(2, 667);
+        x.brackets(3, 337);
+        x.set(1, 1, 1);
+        x.set(3, 1, 1);
+        C.load(x, 0, 0, "call 2 1;halt;ptr 0 1 0;num 50", 4);
+        C.load(x, 1, 0, "call 3 2;arg 0;back;ptr 0 2 0;num 10;num 11", 6);
+        C.load(x, 2, 0, "call 4 3;arg 1;set 0;back;ptr 0 3 0;num 60;num 61;num 62", 8);
+        C.load(x, 3, 0, "arg 2;back", 2);
+        x.start(0, 0, 5);
+        C.run(x, 3, 3, 0);
+        C.machine(x, 3, 0, 3, 0);
+        int[] rings = {1, 6, 3};
+        int[][] due = {{0, 1, 5, 1, 0}, {1, 1, 1, 2, 1}, {2, 1, 6, 3, 0}};
+        for (int i = 0; i < rings.length; i++) {
+            C.due("machine(10 + ring)", x.machine(10 + rings[i]), 1);
+            for (int what = 0; what < 5; what++) {
+                C.due("frame(" + rings[i] + ", 0, " + what + ")", x.frame(rings[i], 0, what), due[i][what]);
+            }
+        }
+        C.due("dry(200, 2)", x.dry(200, 2), 50);
+        C.run(x, 2, 2, 0);
+        C.machine(x, 2, 1, 6, 62);
+        C.run(x, 3, 3, 0);
+        C.machine(x, 1, 1, 1, 11);
+        C.word(x, 1, 4, 1, 11, 0);
+        C.run(x, 3, 3, 1);
+        C.machine(x, 0, 1, 5, 50);
     }
 
     private static void callInward() {

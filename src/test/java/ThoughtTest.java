@@ -337,7 +337,7 @@ public final class ThoughtTest {
         C.due("image()", x.image(), 3);
         C.run(x, 200, 2, 1);
         C.word(x, 1, 5, 1, 0, 0);
-        x.brackets(1, 117);
+        x.brackets(1, 116);
         x.brackets(0, 777);
         x.set(0, 0, 0);
         x.set(1, 1, 0);
@@ -348,7 +348,6 @@ public final class ThoughtTest {
         x.segment(2, 1, 1);
         x.quota(1, -9);
         x.rule(-1);
-        x.rule(0);
         x.rule(0);
         x.drop(2);
         x.segment(0, 7, 20);

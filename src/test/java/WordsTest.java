@@ -175,10 +175,12 @@ public final class WordsTest {
 
     private static void faultsOfWords() {
         RingGates x = withSegment(24);
-        String[] texts = {"tak 1", "takes 1", "Halt", " halt", "5", "-5", "\0", "halt;nope", "halt; halt", "haltt",
-            "halt5", "halt 5", "halt ", "back 1", "take5", "take  5", "take;5", "take-5", "num\t5", "\u00e9"};
+        String[] texts = {"tak 1", "takes 1", "Halt", " halt", "5", "-5", "\0", "halt;nope", "halt; halt", "halts",
+            "halt5", "halt 5", "halt ", "back 1", "take5", "take  5", "take;5", "take-5", "num\t5", "\u00e9",
+            "malt", "hald", "bait", "linkptr 1", "gogo 1"};
         int[] faults = {0, 0, 0, 0, 0, 0, 0, 5, 5, 0,
-            4, 4, 4, 4, 4, 5, 4, 4, 3, 0};
+            4, 4, 4, 4, 4, 5, 4, 4, 3, 0,
+            0, 0, 0, 0, 0};
         for (int i = 0; i < texts.length; i++) {
             C.load(x, 0, 0, texts[i], -100 - faults[i]);
         }
