@@ -20,7 +20,7 @@ public final class RingGates {
     private static final int ACT_HALT = 0, ACT_TAKE = 1, ACT_PUT = 2, ACT_ADD = 3, ACT_GO = 4, ACT_CALL = 5;
     private static final int ACT_BACK = 6, ACT_ARG = 7, ACT_SET = 8, ACT_TEST = 9, ACTS = 10;
     // In a text the words of acts have the acts' own numbers, the others come behind them.
-    private static final int TEXT_NUM = 10, TEXT_PTR = 11, TEXT_IND = 12, TEXT_LINK = 13, TEXT_WORDS = 14;
+    private static final int TEXT_NUM = 10, TEXT_PTR = 11, TEXT_IND = 12, TEXT_LINK = 13, TEXT_NONE = 14, TEXT_WORDS = 15;
 
     private final Machine now = new Machine();
     private final Machine kept = new Machine();
@@ -1185,12 +1185,15 @@ public final class RingGates {
             building.size = n;
             for (int i = 0; i < n && i < ARGUMENTS; i++) {
                 fault = seekOperand(segment, w + 1 + i, ring, true);
-                if (fault == DONE) {
-                    fault = keepArgument(building.argumentAt(i), building.outward);
-                }
                 if (fault != DONE) {
                     return fault;
                 }
+                keepPlace(building.argumentAt(i));
+            }
+            // Only now the copies: an OPERAND's FAULT of any argument comes ahead of theirs.
+            fault = building.outward ? takeCopies() : DONE;
+            if (fault != DONE) {
+                return fault;
             }
             if (!stacks.push(into, building)) {
                 return STACK_FULL;
@@ -1201,22 +1204,27 @@ public final class RingGates {
             return DONE;
         }
 
-        private int keepArgument(Argument argument, boolean copied) {
-            if (argument == null) {
-                return NO_ARGUMENT;
+        private void keepPlace(Argument argument) {
+            if (argument != null) {
+                argument.segment = operandSegment;
+                argument.word = operandWord;
+                argument.ring = operandRing;
+                argument.isSet = false;
             }
-            argument.segment = operandSegment;
-            argument.word = operandWord;
-            argument.ring = operandRing;
-            argument.isSet = false;
-            if (!copied) {
-                return DONE;
+        }
+
+        private int takeCopies() {
+            for (int i = 0; i < building.size && i < ARGUMENTS; i++) {
+                Argument copied = building.argumentAt(i);
+                if (copied != null) {
+                    int fault = fetch(copied.segment, copied.word, copied.ring);
+                    if (fault != DONE) {
+                        return fault;
+                    }
+                    copied.copy = fetched;
+                }
             }
-            int fault = fetch(operandSegment, operandWord, operandRing);
-            if (fault == DONE) {
-                argument.copy = fetched;
-            }
-            return fault;
+            return DONE;
         }
 
         private int goBack() {
@@ -1408,7 +1416,7 @@ public final class RingGates {
         private final int[] bytes = new int[TAPE];
         int length;
         int words;
-        // Each ; ends a line, so that there is one line more than bytes at most.
+        // A ; parts two lines, so that there is one line more than bytes at most.
         private final int[] kinds = new int[TAPE + 1];
         private final int[] values = new int[TAPE + 1];
         private final int[] parts = new int[3];
@@ -1447,10 +1455,6 @@ public final class RingGates {
         }
 
         private void readLine() {
-            if (isLineEnd()) {
-                tell(MISSING, 0);
-                return;
-            }
             int k = readWord();
             String wanted = partsOf(k);
             for (int i = 0; i < wanted.length() && i < parts.length && fault < 0; i++) {
@@ -1467,6 +1471,9 @@ public final class RingGates {
 
         private void tellWord(int k, int told) {
             switch (k) {
+                case TEXT_NONE:
+                    tell(MISSING, 0);
+                    break;
                 case TEXT_NUM:
                     tell(NUMBER, parts[0]);
                     break;
@@ -1624,6 +1631,8 @@ public final class RingGates {
                     return "ptr";
                 case TEXT_IND:
                     return "ind";
+                case TEXT_NONE:
+                    return "none";
                 default:
                     return "link";
             }

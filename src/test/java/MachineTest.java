@@ -23,6 +23,7 @@ public final class MachineTest {
         callFaults();
         callOutward();
         outwardOrderOfFaults();
+        inwardArgumentsAreNotCopied();
         argumentsInward();
         argumentFaults();
         putBackFaults();
@@ -52,7 +53,7 @@ public final class MachineTest {
         C.due("start(15, 23, 7)", x.start(15, 23, 7), 1);
         C.machine(x, 15, 23, 7, 0);
         x = two(444, 444);
-        C.load(x, 0, 0, "take 3;call 4 0;;num 5;ptr 0 1 0", 5);
+        C.load(x, 0, 0, "take 3;call 4 0;none;num 5;ptr 0 1 0", 5);
         x.start(0, 0, 4);
         C.run(x, 2, 2, 0);
         C.run(x, 1, 0, -23);
@@ -152,7 +153,7 @@ public final class MachineTest {
 
     private static void takeAddPut() {
         RingGates x = two(444, 444);
-        C.load(x, 0, 0, "take 5;add 6;put 7;put 8;halt;num 7;ptr 0 1 2;;halt", 9);
+        C.load(x, 0, 0, "take 5;add 6;put 7;put 8;halt;num 7;ptr 0 1 2;none;halt", 9);
         x.number(1, 2, Integer.MAX_VALUE);
         x.start(0, 0, 4);
         C.run(x, 9, 5, 1);
@@ -173,10 +174,10 @@ public final class MachineTest {
         RingGates x = two(44, 444);
         C.load(x, 0, 0, "take 1", 1);
         String[] targets = {"ptr 0 2 0", "ptr 0 1 23", "ptr 5 1 0", "ptr 4 1 0", "ptr 4 1 1", "ptr 4 1 2", "ptr 4 1 3",
-            "ptr 4 1 4", "halt", ""};
+            "ptr 4 1 4", "halt", "none"};
         int[] faults = {-20, -21, -22, -23, -24, -24, -24, -24, -24, -23};
         x.resize(1, 20);
-        C.load(x, 1, 0, ";ptr 0 0 0;ind 0 0 0;link a 0;halt", 5);
+        C.load(x, 1, 0, "none;ptr 0 0 0;ind 0 0 0;link a 0;halt", 5);
         for (int i = 0; i < targets.length; i++) {
             C.load(x, 0, 1, targets[i], 1);
             x.start(0, 0, 2);
@@ -184,7 +185,7 @@ public final class MachineTest {
             C.machine(x, 0, 0, 2, 0);
         }
         // Without READ it is no matter what is there.
-        C.load(x, 0, 1, "", 1);
+        C.load(x, 0, 1, "none", 1);
         x.set(0, 0, 6);
         C.run(x, 1, 0, -22);
         C.load(x, 0, 0, "add 1;num 3", 2);
@@ -199,7 +200,7 @@ public final class MachineTest {
 
     private static void putFaults() {
         RingGates x = two(44, 244);
-        C.load(x, 0, 0, "put 1;;put 5", 3);
+        C.load(x, 0, 0, "put 1;none;put 5", 3);
         String[] targets = {"ptr 0 2 0", "ptr 0 1 23", "ptr 3 1 0"};
         int[] faults = {-20, -21, -22};
         x.resize(1, 20);
@@ -273,7 +274,7 @@ public final class MachineTest {
             "link q 0"};
         int[] faults = {-20, -21, -22, -23, -24, -24, -26, -26};
         x.resize(1, 20);
-        C.load(x, 1, 0, ";num 1;halt;link q 0", 4);
+        C.load(x, 1, 0, "none;num 1;halt;link q 0", 4);
         C.load(x, 0, 0, "take 1", 1);
         for (int i = 0; i < holders.length; i++) {
             C.load(x, 0, 1, holders[i], 1);
@@ -300,7 +301,7 @@ public final class MachineTest {
         x.brackets(1, 355);
         x.brackets(2, 155);
         C.load(x, 0, 0, "take 4;take 5;take 4;halt;link f 1;ind 0 1 4", 6);
-        C.load(x, 1, 1, "num 9;;;link g 2", 4);
+        C.load(x, 1, 1, "num 9;none;none;link g 2", 4);
         C.load(x, 2, 2, "num 8", 1);
         x.start(0, 0, 3);
         C.run(x, 1, 0, -26);
@@ -323,7 +324,7 @@ public final class MachineTest {
 
     private static void snapOutlivesFault() {
         RingGates x = two(444, 44);
-        C.load(x, 0, 0, "take 8;call 9 2;;;;;;;link b 3;ptr 0 1 0;link b 4;link z 0", 12);
+        C.load(x, 0, 0, "take 8;call 9 2;none;none;none;none;none;none;link b 3;ptr 0 1 0;link b 4;link z 0", 12);
         x.start(0, 0, 4);
         C.run(x, 1, 0, -23);
         C.word(x, 0, 8, 5, 1403, 103);
@@ -340,7 +341,7 @@ public final class MachineTest {
         int[] whats = {1, 2, 3, 4, 5};
         for (int what : whats) {
             RingGates x = two(444, 444);
-            C.load(x, 0, 1, "link a 3;;num 5", 3);
+            C.load(x, 0, 1, "link a 3;none;num 5", 3);
             x.act(0, 0, what, 1, 0);
             x.start(0, 0, 4);
             C.run(x, 1, 1, 0);
@@ -416,7 +417,7 @@ public final class MachineTest {
         RingGates x = two(467, 126);
         x.set(1, 1, 2);
         C.load(x, 0, 0, "call 2 0;halt;ptr 0 1 1", 3);
-        C.load(x, 1, 0, ";back;back", 3);
+        C.load(x, 1, 0, "none;back;back", 3);
         x.start(0, 0, 5);
         C.run(x, 1, 1, 0);
         C.machine(x, 1, 1, 2, 0);
@@ -519,7 +520,7 @@ public final class MachineTest {
     private static void outwardOrderOfFaults() {
         RingGates x = two(127, 567);
         x.resize(0, 6);
-        C.load(x, 0, 0, "call 2 3;halt;ptr 0 1 0;num 1;;halt", 6);
+        C.load(x, 0, 0, "call 2 3;halt;ptr 0 1 0;num 1;none;halt", 6);
         x.start(0, 0, 1);
         C.run(x, 1, 0, -23);
         x.number(0, 4, 2);
@@ -538,9 +539,34 @@ public final class MachineTest {
         C.run(x, 1, 0, -21);
         C.machine(x, 0, 0, 1, 0);
         C.due("machine(15)", x.machine(15), 0);
-        // What the first argument lacks is told ahead of what the second one lacks.
+        // The OPERANDS of all arguments come ahead of the first one's copy.
         C.load(x, 0, 3, "halt;link z 0", 2);
-        C.run(x, 1, 0, -24);
+        C.run(x, 1, 0, -26);
+        C.load(x, 0, 3, "ptr 7 0 3;num 1", 2);
+        C.run(x, 1, 0, -21);
+        x.resize(0, 6);
+        C.load(x, 0, 3, "none;link b 20;ind 5 9 0", 3);
+        C.run(x, 1, 0, -20);
+        C.word(x, 0, 4, 5, 1120, 120);
+        // Then the copies, the first first.
+        x.number(0, 5, 1);
+        C.run(x, 1, 0, -23);
+        x.number(0, 3, 1);
+        C.run(x, 1, 0, -21);
+        x.resize(1, 24);
+        C.run(x, 1, 0, -23);
+        x.number(1, 20, 1);
+        C.run(x, 1, 1, 0);
+        C.due("frame(5, 0, 3)", x.frame(5, 0, 3), 3);
+    }
+
+    private static void inwardArgumentsAreNotCopied() {
+        RingGates x = two(127, 117);
+        C.load(x, 0, 0, "call 2 3;halt;ptr 0 1 0;none;ptr 7 9 0;halt", 6);
+        x.start(0, 0, 1);
+        C.run(x, 1, 1, 0);
+        C.due("frame(1, 0, 3)", x.frame(1, 0, 3), 3);
+        C.due("frame(1, 0, 4)", x.frame(1, 0, 4), 0);
     }
 
     private static void argumentsInward() {
@@ -548,7 +574,7 @@ public final class MachineTest {
         x.segment(0, 2, 4);
         x.brackets(2, 444);
         x.set(1, 1, 1);
-        C.load(x, 0, 0, "call 2 3;halt;ptr 0 1 0;num 10;ptr 0 2 1;", 6);
+        C.load(x, 0, 0, "call 2 3;halt;ptr 0 1 0;num 10;ptr 0 2 1;none", 6);
         C.load(x, 2, 1, "num 20", 1);
         C.load(x, 1, 0, "arg 0;set 1;arg 1;set 2;back", 5);
         x.start(0, 0, 4);
@@ -578,7 +604,7 @@ public final class MachineTest {
     private static void argumentFaults() {
         RingGates x = two(467, 117);
         x.set(1, 1, 1);
-        C.load(x, 0, 0, "call 2 2;halt;ptr 0 1 0;num 10;", 5);
+        C.load(x, 0, 0, "call 2 2;halt;ptr 0 1 0;num 10;none", 5);
         C.load(x, 1, 0, "arg 2", 1);
         x.start(1, 0, 1);
         C.run(x, 1, 0, -31);

@@ -314,9 +314,10 @@ final class Model {
             f.ring = ring;
             f.outward = to.e() < segs[to.segment()].r1;
             for (int i = 0; i < act.n(); i++) {
-                Place p = operand(segment, act.w() + 1 + i, ring, true);
-                f.places.add(p);
-                f.copies[i] = f.outward ? (Integer) numberAt(p) : null;
+                f.places.add(operand(segment, act.w() + 1 + i, ring, true));
+            }
+            for (int i = 0; f.outward && i < act.n(); i++) {
+                f.copies[i] = numberAt(f.places.get(i));
             }
             if (stacks.get(into).size() == 6) {
                 throw new Fault(-29);
@@ -639,14 +640,12 @@ final class Model {
     }
 
     private static final String[] WORDS = {"halt", "take", "put", "add", "go", "call", "back", "arg", "set", "test",
-        "num", "ptr", "ind", "link"};
-    private static final String[] PARTS = {"", "W", "W", "W", "W", "WN", "", "K", "K", "W", "V", "RSW", "RSW", "LW"};
+        "num", "ptr", "ind", "link", "none"};
+    private static final String[] PARTS = {"", "W", "W", "W", "W", "WN", "", "K", "K", "W", "V", "RSW", "RSW", "LW",
+        ""};
 
     /** One LINE, from a place on to the ; or the end; throws the place of a FAULT. */
     private static Word lineAt(String line, int from) {
-        if (line.isEmpty()) {
-            return null;
-        }
         Matcher m = Pattern.compile("[a-z]*").matcher(line);
         m.lookingAt();
         int k = Arrays.asList(WORDS).indexOf(m.group());
@@ -688,6 +687,7 @@ final class Model {
             case 10 -> new Num(told.get(0));
             case 11, 12 -> new Ptr(told.get(0), told.get(1), told.get(2), k == 12, null);
             case 13 -> new Link(told.get(0), told.get(1));
+            case 14 -> null;
             default -> new Act(k, told.size() > 0 ? told.get(0) : 0, told.size() > 1 ? told.get(1) : 0);
         };
     }

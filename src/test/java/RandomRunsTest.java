@@ -224,7 +224,7 @@ public final class RandomRunsTest {
         }
     }
 
-    private static final String[] LINES = {"", "num", "ptr", "ind", "link", "halt", "take", "put", "add", "go", "call",
+    private static final String[] LINES = {"none", "num", "ptr", "ind", "link", "halt", "take", "put", "add", "go", "call",
         "back", "arg", "set", "test"};
     private static final int[] PARTS = {0, 1, 3, 3, 2, 0, 1, 1, 1, 1, 2, 0, 1, 1, 1};
 

@@ -61,7 +61,7 @@ public final class ThoughtTest {
 
     private static void dryChangesNothing() {
         RingGates x = two(444, 444);
-        C.load(x, 0, 0, "put 5;take 6;call 7 0;;;num 3;link b 1;ptr 0 1 2", 8);
+        C.load(x, 0, 0, "put 5;take 6;call 7 0;none;none;num 3;link b 1;ptr 0 1 2", 8);
         C.load(x, 1, 1, "num 4;put 1;back", 3);
         x.start(0, 0, 4);
         dryAll(x, 5, 5, 0, 4, 4, 0);
@@ -88,7 +88,7 @@ public final class ThoughtTest {
     private static void operand() {
         RingGates x = two(444, 444);
         x.resize(0, 8);
-        C.load(x, 0, 0, ";num 1;halt;ptr 6 9 23;ind 0 1 0;link b 9;link z 1;ind 0 0 5", 8);
+        C.load(x, 0, 0, "none;num 1;halt;ptr 6 9 23;ind 0 1 0;link b 9;link z 1;ind 0 0 5", 8);
         C.load(x, 1, 0, "ptr 5 1 20", 1);
         C.due("operand(2, 0, 4, 0)", x.operand(2, 0, 4, 0), -1);
         C.due("operand(-1, 0, 4, 0)", x.operand(-1, 0, 4, 0), -1);
@@ -126,7 +126,7 @@ public final class ThoughtTest {
         for (int w = 0; w < 6; w++) {
             x.pointer(0, w, w + 1, true);
         }
-        String[] ends = {"ind 0 9 0", "ind 0 1 9", "ptr 0 9 0", "num 1", "link z 0", ""};
+        String[] ends = {"ind 0 9 0", "ind 0 1 9", "ptr 0 9 0", "num 1", "link z 0", "none"};
         for (String end : ends) {
             C.load(x, 0, 6, end, 1);
             C.due("the seventh is " + end, x.operand(0, 0, 4, 0), -25);
@@ -330,7 +330,7 @@ public final class ThoughtTest {
         x.rule(1);
         x.segment(1, 4, 3);
         C.load(x, 0, 0, "call 2 2;halt;ptr 0 1 0;num 10;link b 5", 5);
-        C.load(x, 1, 0, "set 1;back;;;;num 20", 6);
+        C.load(x, 1, 0, "set 1;back;none;none;none;num 20", 6);
         x.set(1, 1, 3);
         x.start(0, 0, 1);
         C.run(x, 2, 2, 0);

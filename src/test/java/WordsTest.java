@@ -14,6 +14,7 @@ public final class WordsTest {
         loadLines();
         loadPlaces();
         faultsOfWords();
+        linesWithoutWord();
         faultsOfNumbers();
         faultsOfLetters();
         faultsOfEnds();
@@ -129,7 +130,7 @@ public final class WordsTest {
         for (int i = 0; i < acts.length; i++) {
             C.word(x, 0, 1 + i, 6, acts[i], 0);
         }
-        C.load(x, 0, 11, "num 5;num -9999;num 0012;num -0;num 9999;ptr 7 15 23;ind 1 2 3;link a 0;link z 23;", 10);
+        C.load(x, 0, 11, "num 5;num -9999;num 0012;num -0;num 9999;ptr 7 15 23;ind 1 2 3;link a 0;link z 23;none", 10);
         int[] kinds = {1, 1, 1, 1, 1, 2, 3, 4, 4, 0};
         int[] values = {5, -9999, 12, 0, 9999, 15723, 2103, 0, 2523, 0};
         for (int i = 0; i < kinds.length; i++) {
@@ -137,9 +138,9 @@ public final class WordsTest {
         }
         C.word(x, 0, 0, 1, 7, 0);
         C.word(x, 0, 21, 1, 7, 0);
-        C.load(x, 0, 21, "", 1);
+        C.load(x, 0, 21, "none", 1);
         C.word(x, 0, 21, 0, 0, 0);
-        C.load(x, 0, 21, ";take 03;", 3);
+        C.load(x, 0, 21, "none;take 03;none", 3);
         C.word(x, 0, 21, 0, 0, 0);
         C.word(x, 0, 22, 6, 1030, 0);
         C.word(x, 0, 23, 0, 0, 0);
@@ -162,10 +163,11 @@ public final class WordsTest {
         C.word(x, 0, 2, 0, 0, 0);
         C.load(x, 0, 1, "num 1;num 2", 2);
         C.word(x, 0, 2, 1, 2, 0);
-        C.load(x, 0, 3, "", -13);
-        C.load(x, 0, MAX, ";", -13);
+        C.load(x, 0, 3, "none", -13);
+        C.load(x, 0, MAX, "none;none", -13);
         C.load(x, 0, 24, "halt", -13);
-        C.load(x, 0, 0, ";;;", -13);
+        C.load(x, 0, 0, "none;none;none;none", -13);
+        C.load(x, 0, 3, "", -100);
         C.load(x, 0, 99, "halts", -100);
         C.due("the tape is empty", x.count(3), 0);
         C.load(x, 0, 0, "num 5;num 5;nun 5", -112);
@@ -177,20 +179,33 @@ public final class WordsTest {
         RingGates x = withSegment(24);
         String[] texts = {"tak 1", "takes 1", "Halt", " halt", "5", "-5", "\0", "halt;nope", "halt; halt", "halts",
             "halt5", "halt 5", "halt ", "back 1", "take5", "take  5", "take;5", "take-5", "num\t5", "\u00e9",
-            "malt", "hald", "bait", "linkptr 1", "gogo 1"};
+            "malt", "hald", "bait", "linkptr 1", "gogo 1", "non", "nones", "none ", "none 0", "none0", "None"};
         int[] faults = {0, 0, 0, 0, 0, 0, 0, 5, 5, 0,
             4, 4, 4, 4, 4, 5, 4, 4, 3, 0,
-            0, 0, 0, 0, 0};
+            0, 0, 0, 0, 0, 0, 0, 4, 4, 4, 0};
         for (int i = 0; i < texts.length; i++) {
             C.load(x, 0, 0, texts[i], -100 - faults[i]);
         }
+    }
+
+    // A line without a word can't stand: not at the beginning, not between two others, not behind the last ;
+    private static void linesWithoutWord() {
+        RingGates x = withSegment(24);
+        x.number(0, 0, 7);
+        String[] texts = {"", ";", ";;;", ";halt", "halt;", "halt;;halt", "none;", "none;;", "num 5;none;", "take 4;;",
+            " ", " ;halt", "halt; ;halt"};
+        int[] faults = {0, 0, 0, 0, 5, 5, 5, 5, 11, 7, 0, 0, 5};
+        for (int i = 0; i < texts.length; i++) {
+            C.load(x, 0, 0, texts[i], -100 - faults[i]);
+        }
+        C.word(x, 0, 0, 1, 7, 0);
     }
 
     private static void faultsOfNumbers() {
         RingGates x = withSegment(24);
         String[] texts = {"num 12345", "num -12345", "num --5", "num +5", "num a", "num 5 ", "num 5a", "num 5 5",
             "ptr 8 0 0", "ptr 0 16 0", "ptr 0 0 24", "ptr 000 0 0", "ptr -1 0 0", "ptr 0,0 0", "ind 7 15 240",
-            "take 24", "put 99", "add 001", "go 4;", "go 4;go 24", "test -1", "call 1 4", "call 24 4", "call 1 3 1",
+            "take 24", "put 99", "add 001", "go 4;go 5", "go 4;go 24", "test -1", "call 1 4", "call 24 4", "call 1 3 1",
             "arg 3", "set 03", "arg 2;set 00", "num 00001", "num 123456789012345678901234567890",
             "num -00001", "ptr 0 001 0", "call 1 003", "arg 002", "link a 001", "halt;num -"};
         int[] faults = {4, 5, 5, 4, 4, 5, 5, 5,
@@ -227,11 +242,16 @@ public final class WordsTest {
 
     private static void longTexts() {
         RingGates x = withSegment(24);
-        C.load(x, 0, 0, ";".repeat(120), -13);
-        C.load(x, 0, 0, ";".repeat(23), 24);
-        C.load(x, 0, 1, ";".repeat(23), -13);
-        C.load(x, 0, 0, ";".repeat(119) + "x", -219);
-        C.load(x, 0, 0, ";".repeat(117) + "num", -220);
+        // No text tells more words than 24: the shortest line has four bytes.
+        C.load(x, 0, 0, "none;".repeat(23) + "none", 24);
+        C.load(x, 0, 1, "none;".repeat(23) + "none", -13);
+        C.load(x, 0, 0, "go 1;".repeat(23) + "go 23", 24);
+        C.word(x, 0, 23, 6, 4230, 0);
+        C.load(x, 0, 0, "none;".repeat(24), -220);
+        C.load(x, 0, 0, "none;".repeat(23) + "none ", -219);
+        C.load(x, 0, 0, "none;".repeat(23) + "num 1", 24);
+        C.load(x, 0, 0, "none;".repeat(23) + "num -", -220);
+        C.load(x, 0, 0, ";".repeat(120), -100);
         C.load(x, 0, 0, "num " + "1".repeat(116), -104);
         C.load(x, 0, 0, "a".repeat(120), -100);
     }
