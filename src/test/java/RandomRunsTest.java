@@ -1,15 +1,17 @@
 import java.util.Arrays;
 import java.util.Random;
 
-/** Random runs of calls, each answered alike by the class and by the model; then all that can be seen is alike, too. */
+/** Random runs of calls, each answered alike by the class and by the model; then much that can be seen is alike, too. */
 public final class RandomRunsTest {
-    private static final int RUNS = 4000, CALLS = 512, LOOK_EVERY = 128;
+    // An object may be asked no more than 512 times; LONGEST is what one step of a run asks at most, a text and more.
+    private static final int RUNS = 12000, CALLS = 512, LONGEST = 130, BYTES = 124, LOOKS = 64;
 
     private final Random random;
     private final RingGates x = new RingGates();
     private final Model m = new Model();
     private final StringBuilder calls = new StringBuilder();
     private boolean alike = true;
+    private int asked;
     /** 10: long chains, as nearly every word is an INDIRECT one. */
     private final int indirectOfTen;
     private static final int[] faultsSeen = new int[32];
@@ -43,7 +45,7 @@ public final class RandomRunsTest {
         if (kind > 0) {
             prepare();
         }
-        for (int i = 0; i < CALLS && alike; i++) {
+        while (alike && asked < CALLS - LOOKS - LONGEST) {
             if (kind == 0) {
                 anyCall();
             } else if (kind == 1) {
@@ -53,14 +55,18 @@ public final class RandomRunsTest {
             } else {
                 machineCall();
             }
-            if (i % LOOK_EVERY == LOOK_EVERY - 1) {
-                lookAtAll();
+            if (upTo(8) == 0) {
+                look();
             }
+        }
+        while (alike && asked < CALLS) {
+            look();
         }
         return alike;
     }
 
     private void same(String call, int got, int want) {
+        asked++;
         calls.append(call).append(" answered ").append(got).append('\n');
         if (got != want) {
             alike = false;
@@ -130,8 +136,8 @@ public final class RandomRunsTest {
     /** Mostly in a ring that may go there: else most runs would end at their first step. */
     private void startWhereItMayGo() {
         int s = upTo(5);
-        int r1 = Math.max(0, x.of(s, 3));
-        int r2 = Math.max(r1, x.of(s, 4));
+        int r1 = Math.max(0, m.of(s, 3));
+        int r2 = Math.max(r1, m.of(s, 4));
         start(s, upTo(12), upTo(6) == 0 ? upTo(8) : r1 + upTo(r2 - r1 + 1));
     }
 
@@ -175,7 +181,7 @@ public final class RandomRunsTest {
     /** Writes an act where the machine stands stuck, that it goes on there. */
     private void leaveFault() {
         int[] whats = {1, 3, 4, 5, 6, 6, 7, 8, 9};
-        act(x.machine(0), x.machine(1), whats[upTo(whats.length)], upTo(24), upTo(4));
+        act(m.machine(0), m.machine(1), whats[upTo(whats.length)], upTo(24), upTo(4));
         run(1 + upTo(5));
     }
 
@@ -244,7 +250,7 @@ public final class RandomRunsTest {
         if (upTo(2) == 0 && text.length() > 0) {
             spoil(text);
         }
-        for (int i = 0; i < text.length(); i++) {
+        for (int i = 0; i < Math.min(BYTES, text.length()); i++) {
             same("feed(" + (int) text.charAt(i) + ")", x.feed(text.charAt(i)), m.feed(text.charAt(i)));
         }
         load(upTo(6) == 0 ? aSegment() : upTo(5), upTo(3) == 0 ? aWord() : upTo(3));
@@ -266,43 +272,19 @@ public final class RandomRunsTest {
         }
     }
 
-    private void lookAtAll() {
-        for (int what = -1; what <= 9; what++) {
-            count(what);
+    private void look() {
+        switch (upTo(12)) {
+            case 0 -> count(upTo(9));
+            case 1 -> cell(upTo(8), upTo(5));
+            case 2 -> of(upTo(2) == 0 ? upTo(5) : upTo(16), upTo(10));
+            case 3 -> lookup(upTo(5), upTo(6));
+            case 4 -> machine(upTo(2) == 0 ? upTo(4) : 10 + upTo(8));
+            case 5 -> frame(upTo(8), upTo(4), upTo(5));
+            case 6 -> ways(upTo(8), upTo(9) - 1);
+            case 7 -> same("stale()", x.stale(), m.stale());
+            case 8 -> same("why()", x.why(), m.why());
+            default -> word(upTo(5), upTo(24), upTo(3));
         }
-        for (int d = 0; d < 8; d++) {
-            for (int what = 0; what < 5; what++) {
-                cell(d, what);
-            }
-        }
-        for (int s = 0; s < 16; s++) {
-            for (int what = 0; what < 10; what++) {
-                of(s, what);
-            }
-            for (int w = 0; w < 24; w++) {
-                for (int part = 0; part < 3; part++) {
-                    word(s, w, part);
-                }
-            }
-            for (int name = 0; name < 26; name += 5) {
-                lookup(s, name);
-            }
-        }
-        for (int what = 0; what < 18; what++) {
-            machine(what);
-        }
-        for (int ring = 0; ring < 8; ring++) {
-            for (int k = 0; k < 7; k++) {
-                for (int what = 0; what < 5; what++) {
-                    frame(ring, k, what);
-                }
-            }
-            for (int to = -1; to < 8; to++) {
-                ways(ring, to);
-            }
-        }
-        same("why()", x.why(), m.why());
-        same("stale()", x.stale(), m.stale());
     }
 
     private void directory(int d) {
@@ -394,8 +376,8 @@ public final class RandomRunsTest {
     private void run(int n) {
         same("run(" + n + ")", x.run(n), m.run(n));
         same("why()", x.why(), m.why());
-        if (x.why() <= -20 && x.why() >= -31) {
-            faultsSeen[-x.why()]++;
+        if (m.why() <= -20 && m.why() >= -31) {
+            faultsSeen[-m.why()]++;
         }
     }
 

@@ -241,19 +241,18 @@ public final class WordsTest {
     }
 
     private static void longTexts() {
-        RingGates x = withSegment(24);
-        // No text tells more words than 24: the shortest line has four bytes.
-        C.load(x, 0, 0, "none;".repeat(23) + "none", 24);
-        C.load(x, 0, 1, "none;".repeat(23) + "none", -13);
-        C.load(x, 0, 0, "go 1;".repeat(23) + "go 23", 24);
-        C.word(x, 0, 23, 6, 4230, 0);
-        C.load(x, 0, 0, "none;".repeat(24), -220);
-        C.load(x, 0, 0, "none;".repeat(23) + "none ", -219);
-        C.load(x, 0, 0, "none;".repeat(23) + "num 1", 24);
-        C.load(x, 0, 0, "none;".repeat(23) + "num -", -220);
-        C.load(x, 0, 0, ";".repeat(120), -100);
-        C.load(x, 0, 0, "num " + "1".repeat(116), -104);
-        C.load(x, 0, 0, "a".repeat(120), -100);
+        // No text tells more words than 24: the shortest line has four bytes. Each is for an object of its own, as an
+        // object may be asked no more than 512 times.
+        String[] texts = {"none;".repeat(23) + "none", "go 1;".repeat(23) + "go 23", "none;".repeat(24),
+            "none;".repeat(23) + "none ", "none;".repeat(23) + "num 1", "none;".repeat(23) + "num -", ";".repeat(120),
+            "num " + "1".repeat(116), "a".repeat(120)};
+        int[] due = {24, 24, -220, -219, 24, -220, -100, -104, -100};
+        for (int i = 0; i < texts.length; i++) {
+            RingGates x = withSegment(24);
+            C.load(x, 0, 0, texts[i], due[i]);
+            C.due("word(0, 23, 0)", x.word(0, 23, 0), i == 1 ? 6 : i == 4 ? 1 : 0);
+            C.load(x, 0, 1, texts[i], due[i] == 24 ? -13 : due[i]);
+        }
     }
 
     private static void unsnap() {
