@@ -356,6 +356,26 @@ final class CallBoundaries {
                 }
             }
         }
+        // Their e begins with RING, not with the e of what is called: ring 3 may read nothing here, ring 1 may.
+        two(117, 457);
+        lines(0, "call 1 2;ptr 3 1 0;num 10;ptr 1 0 2");
+        starts(0, 1);
+        b.runs(1, 1, 0);
+        b.frame(4, 0, 0, 1, 1, 2, 1);
+        lines(1, "arg 1;set 0;back");
+        b.runs(3, 3, 0);
+        b.machine(0, 1, 1, 10);
+        // Nor with the new RING: called by ring 3, a gate leads to ring 1, which alone may read the POINTER.
+        two(137, 117);
+        b.then(x -> {
+            x.segment(0, 2, 2);
+            x.brackets(2, 117);
+            x.number(2, 0, 6);
+            x.set(1, 1, 1);
+        });
+        lines(0, "call 1 1;ptr 0 1 0;ind 0 2 0");
+        b.then(x -> x.start(0, 0, 3));
+        b.faults(-22);
         // The ring's own FAULTS come ahead of any argument's.
         two(77, 112);
         lines(0, "call 1 1;ptr 2 1 3;ind 0 9 9");
@@ -631,7 +651,22 @@ final class CallBoundaries {
             b.dueWithin(10, 17, what -> 0, 0, "machine", 0);
             b.runs(1, 1, 1);
         }
-        // It goes to the place that it has, whatever is there now; only the next STEP asks.
+        // It goes to the place that it has, be there another SEGMENT by then.
+        starts(0, 5);
+        steps(1);
+        b.then(x -> {
+            x.drop(0);
+            x.segment(0, 7, 2);
+            x.brackets(0, 457);
+            x.act(0, 1, 0, 0, 0);
+        });
+        b.runs(2, 2, 1);
+        b.machine(0, 1, 5, 0);
+        two(457, 117);
+        lines(0, "call 5 1;halt;none;none;call 7 0;ptr 0 1 0;num 3;ptr 0 1 1");
+        lines(1, "back;halt");
+        b.then(x -> x.set(1, 1, 24));
+        // Or none: only the next STEP asks.
         starts(0, 5);
         steps(1);
         b.then(x -> x.drop(0));
@@ -874,12 +909,24 @@ final class CallBoundaries {
         b.machine(0, 12, 4, 10);
         b.faults(-31);
         // Of RING's STACK: in another ring there is no such FRAME.
-        two(457, 457);
-        lines(0, "call 1 1;ptr 0 1 0;num 10");
-        lines(1, "go 1;ptr 5 1 2;arg 0");
-        starts(0, 4);
-        b.runs(3, 2, -31);
-        b.machine(1, 2, 5, 0);
+        for (int called = 0; called < 7; called++) {
+            for (int gone = called + 1; gone < 8; gone++) {
+                int ring = called;
+                int other = gone;
+                two(77, 77);
+                lines(0, "call 1 1;ptr 0 1 0;num 10");
+                lines(1, "go 1;none;arg 0");
+                b.then(x -> {
+                    x.pointer(1, 1, 1002 + 100 * other, false);
+                    x.start(0, 0, ring);
+                });
+                b.runs(3, 2, -31);
+                b.machine(1, 2, other, 0);
+                b.due(1, "machine", 10 + ring);
+                b.faults("set", -31, x -> x.act(1, 2, 8, 0, 0));
+                b.faults("back", -30, x -> x.act(1, 2, 6, 0, 0));
+            }
+        }
     }
 
     private void argInward() {

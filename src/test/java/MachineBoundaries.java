@@ -686,7 +686,29 @@ final class MachineBoundaries {
             x.set(0, 0, 6);
         });
         b.faults(-22);
-        // By each ring that may read it: the SNAPPED one bears that ring.
+        // The RING of the SNAPPED one is e as it is then: R1 of the SEGMENT that holds it, 5 here, raises e only behind that.
+        for (int ring = 0; ring <= 5; ring++) {
+            int r = ring;
+            b.given(x -> {
+                x.segment(0, 0, 3);
+                x.segment(0, 1, 3);
+                x.brackets(0, 77);
+                x.brackets(1, 577);
+                Boundaries.put(x, 0, 0, "take 1;ind 2 1 0");
+                Boundaries.put(x, 1, 0, "link b 2;none;num 6");
+                x.start(0, 0, r);
+            });
+            b.runs(1, 1, 0);
+            b.word(1, 0, 5, 1002 + 100 * Math.max(2, r), 102);
+            b.keeps(Math.max(5, r), "operand", 0, 1, r, 0);
+            b.then(x -> {
+                x.unsnap(1);
+                x.pointer(0, 1, 1000, true);
+                x.start(0, 0, r);
+            });
+            b.runs(1, 1, 0);
+            b.word(1, 0, 5, 1002 + 100 * r, 102);
+        }
         for (int ring = 2; ring <= 5; ring++) {
             int r = ring;
             b.given(x -> {

@@ -4,7 +4,7 @@ import java.nio.file.Path;
 import java.util.ArrayList;
 import java.util.List;
 
-/** The document's text by promise (0: the Terms), and which of it has been told beside a test. */
+/** The document's text by promise (0: the Terms, with how long an object is used), and which of it tests have told. */
 final class Sentences {
     private static final int PROMISES = 36;
     private final String[] texts = new String[PROMISES + 1];
@@ -19,7 +19,8 @@ final class Sentences {
     }
 
     private static String terms(String all) {
-        String text = between(all, "\n## Terms\n", "\n## Promise 1:");
+        String used = "An object is used " + between(all, "\nAn object is used ", "\n") + "\n";
+        String text = used + between(all, "\n## Terms\n", "\n## Promise 1:");
         // Headings, and the paragraphs that tell how the interface is parted, ask for nothing.
         return text.replaceAll("(?m)^Ahead of the calls .*$|^```.*$|======== [123]|^  (?=[A-Z])", "");
     }

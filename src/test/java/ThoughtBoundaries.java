@@ -33,6 +33,7 @@ final class ThoughtBoundaries {
         back();
         backLeaves();
         anotherObject();
+        lastCall();
         countSmall();
         countGreat();
     }
@@ -93,6 +94,14 @@ final class ThoughtBoundaries {
         b.given(x -> { });
         dryIs(1, 0, -20, 0, 4, 0);
         dryIs(200, 0, -20, 0, 4, 0);
+        // It is of the machine as it is, whatever an IMAGE keeps.
+        b.then(x -> {
+            x.image();
+            x.segment(0, 0, 2);
+            Boundaries.put(x, 0, 0, "add 1;num 9");
+        });
+        dryIs(1, 1, 0, 9, 4, 0);
+        dryIs(2, 1, -24, 9, 4, 0);
     }
 
     /** Six FRAMES on each of the eight STACKS. */
@@ -873,6 +882,48 @@ final class ThoughtBoundaries {
             }
         });
         b.keeps(Boundaries.FULL, "directory", 0);
+    }
+
+    /** The 512th call is answered as the first one is, also behind 511 of the dearest. */
+    private void lastCall() {
+        b.term(36, "An object is used for at most 512 calls after it has been made; what later calls answer is free.");
+        b.given(x -> {
+            for (int i = 0; i < 255; i++) {
+                x.segment(0, i % 26, 24);
+                x.drop(0);
+            }
+            x.segment(0, 3, 5);
+        });
+        b.due(256, "count", 8);
+        b.due(256, "of", 0, 8);
+        b.due(1, "segment", 0, 4, 24);
+        b.due(1, "drop", 0);
+        b.given(x -> {
+            x.segment(0, 0, 3);
+            Boundaries.put(x, 0, 0, "add 2;go 0;num 1");
+            x.start(0, 0, 4);
+            for (int i = 5; i < 510; i++) {
+                switch (i % 4) {
+                    case 0 -> x.image();
+                    case 1 -> x.back();
+                    case 2 -> x.run(200);
+                    default -> x.dry(200, 4);
+                }
+            }
+            x.start(0, 0, 4);
+        });
+        b.due(200, "run", 200);
+        b.due(200, "dry", 200, 0);
+        b.due(100, "dry", 200, 2);
+        b.due(1, "back");
+        b.given(x -> {
+            x.segment(0, 0, 24);
+            for (int i = 1; i < 511; i++) {
+                x.feed(i < 391 ? 256 : "none;".charAt(i % 5 == 0 ? 4 : i % 5 - 1));
+            }
+        });
+        b.due(Boundaries.FULL, "feed", 'n');
+        b.due(-220, "load", 0, 0);
     }
 
     private void countSmall() {
